@@ -203,6 +203,7 @@ public final class ModelTest {
                 Due.is(run + " slips(" + a + ", " + b + ", " + c + ")", x.slips(a, b, c), m.slips(a, b, c));
             }
             case 15 -> {
+                a = number(9);
                 b = row();
                 Due.is(run + " odds(" + a + ", " + b + ", " + c + ")", x.odds(a, b, c), m.odds(a, b, c));
             }

@@ -5,6 +5,9 @@ public final class PromisesTest {
     /** Keys 1, 2, 3, 4 (0 and 1 held by their own numbers, 2 and 3 in the box), locks 3, 7, 16. */
     private static final String SMALL = "key xoooooooo;key oxooooooo;key xxooooooo;key ooxoooooo;"
         + "lock xxooooooo;lock xxxoooooo;lock ooooxoooo;person;person;holds 0 0;holds 1 1;";
+    /** Four people with a key each; the lock needs them all. */
+    private static final String FOUR = "key xoooooooo;key oxooooooo;key ooxoooooo;key oooxooooo;lock xxxxooooo;"
+        + "person;person;person;person;holds 0 0;holds 1 1;holds 2 2;holds 3 3;";
     private static final String ZERO_KEY = "key ooooooooo;";
 
     private PromisesTest() {
@@ -129,6 +132,8 @@ public final class PromisesTest {
         is("holder of that", x.key(0, 1), 0);
         is("house of nothing again", x.house(), 0);
         is("nobody then", x.count(0) + x.count(1) + x.count(2), 0);
+        is("ends too early", Due.tell(x, "holds"), -15);
+        is("heard anew behind that", Due.tell(x, "person;"), 1);
     }
 
     private static void fault(String text, int place) {
@@ -143,6 +148,9 @@ public final class PromisesTest {
         fault("1;", 0);
         fault("person;;", 7);
         fault("keys xoooooooo;", 0);
+        fault("keyz xoooooooo;", 0);
+        fault("keya xoooooooo;", 0);
+        fault("hey xoooooooo;", 0);
         fault("keyxoooooooo;", 0);
         fault("Key xoooooooo;", 0);
         fault("key Xoooooooo;", 4);
@@ -179,6 +187,8 @@ public final class PromisesTest {
         fault("person;key xoooooooo;holds 0 99;", 29);
         fault("person;key xoooooooo;holds 0 100;", 29);
         fault("person;key xoooooooo;holds 0 00;", 29);
+        fault("person;key xoooooooo;key xoooooooo;holds 0 19;", 43);
+        fault("person;key xoooooooo;key xoooooooo;holds 0 10;", 43);
         fault("person;key xoooooooo;holds 00 0;", 27);
         fault("person;person;key xoooooooo;holds 01 0;", 34);
         fault("person;key xoooooooo;holds 0 4294967296;", 29);
@@ -387,6 +397,30 @@ public final class PromisesTest {
         x.undo();
         is("number is free again", x.cut(8), 4);
         is("new row", x.key(4, 0), 8);
+        undoOfTenMixed();
+    }
+
+    private static void undoOfTenMixed() {
+        NotchKeys x = small();
+        x.forge(0, 8);
+        x.forge(0, 8);
+        x.give(1, 0);
+        x.lose(2);
+        x.cut(64);
+        for (int i = 0; i < 7; i++) {
+            x.forge(4, i);
+        }
+        for (int i = 9; i >= 2; i--) {
+            is("undo behind forgotten ones", x.undo(), i);
+        }
+        is("cut is undone", x.count(0), 4);
+        is("lost still", x.key(2, 1), -3);
+        is("undo of lose", x.undo(), 1);
+        is("found", x.key(2, 1), -4);
+        is("given still", x.key(1, 1), 0);
+        is("undo of give", x.undo(), 0);
+        is("given back", x.key(1, 1), 1);
+        is("no more of twelve", x.undo(), STATE);
     }
 
     private static void alone() {
@@ -426,6 +460,9 @@ public final class PromisesTest {
         NotchKeys y = Due.told("key xxooooooo;key ooxxooooo;key xoxoooooo;key oxoxooooo;");
         is("two pairs make it, least bits", y.fewest(15, 8, 1), 3);
         is("other pairs", y.fewest(6, 8, 1), 5);
+        y.cut(16);
+        y.lose(3);
+        is("all that are there", y.fewest(26, 8, 1), 23);
     }
 
     private static void opens() {
@@ -453,6 +490,7 @@ public final class PromisesTest {
         is("third", x.groups(0, 2), 10);
         is("not so many", x.groups(0, 3), -5);
         is("far too many", x.groups(0, Integer.MAX_VALUE), -5);
+        is("all of them", Due.told(FOUR).groups(0, 0), 15);
         is("nobody is enough", x.groups(1, -1), 1);
         is("nobody", x.groups(1, 0), 0);
         is("none", x.groups(2, -1), 0);
@@ -535,6 +573,7 @@ public final class PromisesTest {
         x.give(2, 1);
         is("one is enough", x.rob(1), 2);
         is("one and the box", x.rob(3), 2);
+        is("all of them", Due.told(FOUR).rob(1), 15);
         x.cut(3);
         x.give(4, 0);
         is("least bits of two", x.rob(1), 1);
@@ -553,6 +592,8 @@ public final class PromisesTest {
         is("nowhere cut", y.apart(), NONE);
         y.cut(511);
         is("nine", y.apart(), 9);
+        y.cut(510);
+        is("one", y.apart(), 1);
     }
 
     private static void slips() {
@@ -588,6 +629,8 @@ public final class PromisesTest {
         is("never, lower", x.odds(1, 16, 1), 1);
         is("not so many", x.odds(5, 0, 0), 0);
         is("not so many, lower", x.odds(5, 0, 1), 1);
+        is("8 of 4", x.odds(8, 0, 0), 0);
+        is("4 of 4", x.odds(4, 4, 0), 1);
         x.cut(1);
         x.lose(3);
         is("least terms", x.odds(1, 1, 0), 1);
@@ -659,6 +702,27 @@ public final class PromisesTest {
         x.back(0);
         x.undo();
         is("trace goes on", x.trace(), 1);
+        imageKeepsUndo();
+    }
+
+    private static void imageKeepsUndo() {
+        NotchKeys x = small();
+        x.lose(1);
+        x.cut(5);
+        x.keep(0);
+        x.undo();
+        x.undo();
+        x.give(0, 1);
+        x.forge(3, 0);
+        is("back", x.back(0), 5);
+        is("undo of the cut", x.undo(), 1);
+        is("keys then", x.count(0), 4);
+        is("given no more", x.key(0, 1), 0);
+        is("lost as kept", x.key(1, 1), -3);
+        is("undo of the loss", x.undo(), 0);
+        is("holder then", x.key(1, 1), 1);
+        is("row then", x.key(3, 0), 4);
+        is("no more", x.undo(), STATE);
     }
 
     private static void count() {
