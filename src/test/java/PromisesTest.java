@@ -597,7 +597,8 @@ public final class PromisesTest {
     }
 
     private static void slips() {
-        NotchKeys x = Due.told("key xoooooooo;key oxooooooo;key ooxoooooo;lock xooooooox;lock oxooooooo;lock xoxooooxx;");
+        NotchKeys x = Due.told("key xoooooooo;key oxooooooo;key ooxoooooo;"
+            + "lock xooooooox;lock oxooooooo;lock xoxooooxx;");
         is("one of one", x.slips(1, 0, -1), 1);
         is("which", x.slips(1, 0, 0), 8);
         is("no second", x.slips(1, 0, 1), -5);
